@@ -115,6 +115,16 @@ public final class InputsTest {
         Checks.due(b.inputInfo(15, 0), 1);
         Checks.due(b.inputInfo(16, 0), INVALID);
         Checks.due(b.count(14), 4);
+        Checks.due(b.key(3), NOT_FOUND);
+        Checks.due(b.keyIn(3, 15), 1);
+        Checks.due(b.key(3), 15);
+        Checks.due(b.count(4), 1);
+        Checks.due(b.bridge(15, 2), 1);
+        Checks.due(b.bridged(0), 15);
+        Checks.due(b.run(9), 0);
+        Checks.due(b.count(1), 1);
+        Checks.due(b.count(2), 8);
+        Checks.due(b.count(12), 2);
     }
 
     private static void essential() {

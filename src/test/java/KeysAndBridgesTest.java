@@ -236,5 +236,10 @@ public final class KeysAndBridgesTest {
         Checks.due(b.bridged(0), 3);
         Checks.due(b.bridged(1), 4);
         Checks.due(b.bridged(2), 5);
+        b.unbridge(4);
+        b.bridge(0, 3);
+        Checks.due(b.bridged(0), 0);
+        Checks.due(b.bridged(1), 3);
+        Checks.due(b.bridged(2), 5);
     }
 }

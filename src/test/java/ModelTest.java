@@ -3,13 +3,15 @@ import java.util.List;
 import java.util.Random;
 
 /**
- * Runs of calls, the same ones each time, on the program and on Model; each answer is compared,
- * and behind each call some of the questions that the document has. Behind some runs every
- * question is put.
+ * Runs of calls, the same ones each time, on the program and on Model; each answer is compared.
+ * Half of the runs are short, and every question that the document has is put behind them; no
+ * run has more than the 512 calls that are promised.
  */
 public final class ModelTest {
-    private static final int RUNS = 1500;
-    private static final int CALLS = 512;
+    private static final int RUNS = 3000;
+    /** One turn makes fewer than 20 calls, all questions together are up to 415. */
+    private static final int CALLS = 512 - 20;
+    private static final int CALLS_AHEAD_OF_QUESTIONS = CALLS - 415;
     private static final int[] WILD =
             {Integer.MIN_VALUE, -65536, -3, -2, -1, 17, 31, 32, 33, 501, 5001, 65536, Integer.MAX_VALUE};
 
@@ -38,14 +40,22 @@ public final class ModelTest {
     }
 
     private void compare() {
-        for (int added = 2 + random.nextInt(8); added > 0; added--) {
+        for (int added = 2 + random.nextInt(chance(3) ? 15 : 6); added > 0; added--) {
             add();
         }
         for (int motion = 0; motion < 6; motion++) {
             row(motion);
         }
-        while (calls.size() < CALLS && same) {
+        boolean asksAll = chance(2);
+        int last = asksAll ? CALLS_AHEAD_OF_QUESTIONS : CALLS;
+        while (calls.size() < last && same) {
             call();
+        }
+        if (asksAll) {
+            askAll();
+        }
+        if (calls.size() > 512) {
+            Checks.fault("a run of " + calls.size() + " calls");
         }
     }
 
@@ -155,7 +165,9 @@ public final class ModelTest {
             same("essential(" + sensor + ", " + is + ")",
                     board.essential(sensor, is), model.essential(sensor, is));
         } else {
-            int closed = chance(3) ? number(0, 1) : 1;
+            boolean goesOnWithTest = model.inputInfo(sensor, 9) > 0;
+            int closed = goesOnWithTest ? 1 - model.inputInfo(sensor, 1)
+                    : chance(3) ? number(0, 1) : 1;
             same("input(" + sensor + ", " + closed + ")",
                     board.input(sensor, closed), model.input(sensor, closed));
         }
@@ -282,14 +294,9 @@ public final class ModelTest {
         same("waysAgain(" + motion + ")", board.waysAgain(motion), model.waysAgain(motion));
         same("needed(" + motion + ")", board.needed(motion), model.needed(motion));
         same("count(" + what + ")", board.count(what), model.count(what));
-        if (chance(6)) {
-            askAll();
-        }
     }
 
-    /** Not counted as calls of the run: the questions change nothing. */
     private void askAll() {
-        int asked = calls.size();
         for (int what = 0; what <= 16; what++) {
             same("count(" + what + ")", board.count(what), model.count(what));
             for (int input = 0; input < model.count(0); input++) {
@@ -307,6 +314,5 @@ public final class ModelTest {
             same("needed(" + number + ")", board.needed(number), model.needed(number));
             same("bridged(" + number + ")", board.bridged(number), model.bridged(number));
         }
-        calls.subList(asked, calls.size()).clear();
     }
 }

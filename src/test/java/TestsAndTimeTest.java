@@ -18,6 +18,8 @@ public final class TestsAndTimeTest {
         snapshot();
         restore();
         restoreStopsNone();
+        restoreOfInputsMadeAnew();
+        restoreOfWhatWasOverwritten();
         undo();
         historyOfFour();
         changes();
@@ -224,6 +226,8 @@ public final class TestsAndTimeTest {
         for (int what = 0; what < due.length; what++) {
             Checks.due(b.count(what), due[what]);
         }
+        b.bridge(0, 1);
+        Checks.due(b.count(6), 3);
         Checks.due(b.count(-1), INVALID);
         Checks.due(b.count(17), INVALID);
         Checks.due(b.count(Integer.MIN_VALUE), INVALID);
@@ -303,6 +307,67 @@ public final class TestsAndTimeTest {
         Checks.due(b.motion(0, 2), 1);
         b.run(1);
         Checks.due(b.stop(0), 6);
+    }
+
+    /** What was made in place of an input that was undone leaves nothing behind. */
+    private static void restoreOfInputsMadeAnew() {
+        InterlockBoard b = new InterlockBoard();
+        b.sensor(0);
+        b.sensor(5);
+        b.snapshot(0);
+        b.undo();
+        b.lock(4, -1);
+        Checks.due(b.restore(0), 0);
+        Checks.due(b.inputInfo(1, 0), 0);
+        Checks.due(b.inputInfo(1, 5), 5);
+        Checks.due(b.input(1, 1), 0);
+        b.lock(1, 0);
+        b.snapshot(1);
+        b.undo();
+        b.lock(3, -1);
+        Checks.due(b.restore(1), 0);
+        Checks.due(b.inputInfo(2, 10), 1);
+        Checks.due(b.inputInfo(2, 11), 0);
+        b.undo();
+        Checks.due(b.inputInfo(2, 10), 3);
+        Checks.due(b.inputInfo(2, 11), NOT_FOUND);
+    }
+
+    private static void restoreOfWhatWasOverwritten() {
+        InterlockBoard b = Checks.withSensors(2);
+        b.input(0, 1);
+        b.input(1, 1);
+        b.test(0);
+        b.row(0, 1);
+        b.start(0);
+        b.run(3);
+        b.snapshot(0);
+        b.stop(0);
+        b.dropRows(0);
+        b.row(0, 2);
+        b.start(0);
+        b.input(0, 0);
+        b.input(0, 1);
+        b.run(10);
+        b.test(0);
+        Checks.due(b.restore(0), 3);
+        Checks.due(b.motion(0, 8), 1);
+        Checks.due(b.motion(0, 5), 3);
+        Checks.due(b.motion(0, 6), 1);
+        Checks.due(b.count(13), 0);
+        b.run(17);
+        Checks.due(b.inputInfo(0, 9), 1);
+        b.run(1);
+        Checks.due(b.inputInfo(0, 9), 0);
+        Checks.due(b.stop(0), 21);
+        b.undo();
+        b.undo();
+        b.undo();
+        b.undo();
+        Checks.due(b.count(8), 13);
+        Checks.due(b.motion(0, 8), 2);
+        Checks.due(b.stop(0), 10);
+        Checks.due(b.motion(0, 5), 13);
     }
 
     private static void undo() {
