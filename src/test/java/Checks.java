@@ -1,9 +1,26 @@
 /** What the tests share: answers are compared with those that are due, wrong ones are printed. */
-final class Checks {
+class Checks {
+    /** The longest test takes some seconds; a call that does not end is to fail, not to hang. */
+    private static final long LONGEST_MILLIS = 300_000;
+
     private static int made = 0;
     private static int wrong = 0;
 
-    private Checks() {
+    static {
+        Thread watch = new Thread(Checks::failLate);
+        watch.setDaemon(true);
+        watch.start();
+    }
+
+    private static void failLate() {
+        try {
+            Thread.sleep(LONGEST_MILLIS);
+        } catch (InterruptedException ended) {
+            return;
+        }
+        System.out.println("a call has not ended");
+        System.out.flush();
+        Runtime.getRuntime().halt(1);
     }
 
     static void due(int answer, int due) {
@@ -11,15 +28,23 @@ final class Checks {
         if (answer != due) {
             wrong++;
             StackWalker.StackFrame caller = StackWalker.getInstance().walk(frames ->
-                    frames.filter(frame -> !frame.getClassName().equals("Checks")).findFirst().get());
+                    frames.filter(frame -> !isHelper(frame.getClassName())).findFirst().get());
             System.out.println(caller.getFileName() + ":" + caller.getLineNumber()
                     + ": answered " + answer + ", due is " + due);
         }
     }
 
+    private static boolean isHelper(String className) {
+        return className.equals("Checks") || className.equals("Sentences");
+    }
+
     static void fault(String whatIsWrong) {
         wrong++;
         System.out.println(whatIsWrong);
+    }
+
+    static int wrongSoFar() {
+        return wrong;
     }
 
     /** Ends the test with exit code 1 if an answer was wrong. */
