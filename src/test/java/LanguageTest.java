@@ -10,7 +10,10 @@ import java.util.TreeSet;
 import java.util.regex.Matcher;
 import java.util.regex.Pattern;
 
-/** The face as the document has it, and those rules of LANGUAGE.md that can be looked up. */
+/**
+ * The face as the document has it, line for line, the heads ahead of its calls, and those rules of
+ * LANGUAGE.md that can be looked up. Its arguments are the program and the document.
+ */
 public final class LanguageTest {
     private static final Set<String> FACE = new TreeSet<>(Set.of(
             "sensor(int)", "lock(int,int)", "essential(int,int)", "input(int,int)",
@@ -27,20 +30,33 @@ public final class LanguageTest {
         "Object", "Exception", "System\\.(?!arraycopy)\\w+", "Math\\.\\w*Exact", "->", "::",
         "equals", "hashCode", "toString", "volatile", "native", "float", "double"};
 
+    private static final Pattern METHOD = Pattern.compile(" +(?:\\w+ )*[\\w\\[\\]]+\\(.*\\) \\{");
+
     public static void main(String[] arguments) throws IOException {
         face();
-        for (Class<?> inside : InterlockBoard.class.getDeclaredClasses()) {
+        Class<?>[] insides = InterlockBoard.class.getDeclaredClasses();
+        require(insides.length < 12, "too many classes: " + insides.length);
+        for (Class<?> inside : insides) {
             int modifiers = inside.getModifiers();
             require(Modifier.isStatic(modifiers), inside + " is not static");
             require(!Modifier.isPublic(modifiers) && !Modifier.isProtected(modifiers),
                     inside + " is public or protected");
             staticFields(inside);
             noPrivateMethodLikePublicOne(inside);
+            sizes(inside);
         }
         staticFields(InterlockBoard.class);
         noPrivateMethodLikePublicOne(InterlockBoard.class);
+        sizes(InterlockBoard.class);
         if (arguments.length > 0) {
-            source(Files.readString(Path.of(arguments[0])));
+            String source = Files.readString(Path.of(arguments[0]));
+            source(source);
+            methodsAreShort(source);
+            if (arguments.length > 1) {
+                String document = Files.readString(Path.of(arguments[1]));
+                faceOfDocument(source, document);
+                headsOfDocument(source, document);
+            }
         }
         Checks.end("LanguageTest");
     }
@@ -92,6 +108,73 @@ public final class LanguageTest {
                     || FACE.stream().noneMatch(one -> one.startsWith(method.getName() + "(")),
                     method + " bears the name of a public one");
         }
+    }
+
+    private static void sizes(Class<?> owner) {
+        int fields = 0;
+        for (Field field : owner.getDeclaredFields()) {
+            fields += Modifier.isStatic(field.getModifiers()) ? 0 : 1;
+        }
+        require(fields <= 20, owner + " has " + fields + " fields");
+        for (Method method : owner.getDeclaredMethods()) {
+            require(method.getParameterCount() <= 7, method + " has too many parameters");
+        }
+    }
+
+    /** A method ends with the first line that stands as far to the right as its own first one. */
+    private static void methodsAreShort(String source) {
+        String[] lines = source.split("\n");
+        int found = 0;
+        for (int first = 0; first < lines.length; first++) {
+            if (METHOD.matcher(lines[first]).matches() && !lines[first].contains(" new ")) {
+                String last = " ".repeat(lines[first].length() - lines[first].stripLeading().length()) + "}";
+                int end = first;
+                while (end < lines.length && !lines[end].equals(last)) {
+                    end++;
+                }
+                require(end - first < 60, "a method of too many lines: " + lines[first]);
+                found++;
+            }
+        }
+        require(found >= FACE.size(), "found only so many methods: " + found);
+    }
+
+    /** Each line of "The public face" stands in the program, in the same order. */
+    private static void faceOfDocument(String source, String document) {
+        int from = document.indexOf("public final class InterlockBoard {");
+        int end = document.indexOf("```", Math.max(from, 0));
+        if (from < 0 || end < 0) {
+            Checks.fault("the document has no public face");
+            return;
+        }
+        int at = 0;
+        int calls = 0;
+        for (String line : document.substring(from, end).split("\n")) {
+            String sought = line.equals("}") ? line : line.replace(");", ") {");
+            int place = source.indexOf("\n" + sought + "\n", at);
+            require(place >= 0, "not in the program, or not in this order: " + line);
+            at = Math.max(at, place + 1);
+            calls += sought.endsWith(") {") ? 1 : 0;
+        }
+        require(calls == FACE.size() + 1, "the face of the document has " + calls + " calls");
+    }
+
+    /** "Ahead of the calls .. the interface says: ---- ..": these calls stand behind this line. */
+    private static void headsOfDocument(String source, String document) {
+        Matcher heads = Pattern.compile("Ahead of the calls (.*) the interface says: (---- .*)\\.")
+                .matcher(document);
+        int found = 0;
+        while (heads.find()) {
+            int from = source.indexOf("\n    // " + heads.group(2) + "\n");
+            int end = source.indexOf("\n    // ----", Math.max(from, 0) + 1);
+            require(from >= 0 && end >= 0, "the program does not say: " + heads.group(2));
+            for (String name : heads.group(1).replace("`", "").split(", ")) {
+                int place = source.indexOf("\n    public int " + name + "(");
+                require(place > from && place < end, name + " does not stand behind " + heads.group(2));
+            }
+            found++;
+        }
+        require(found == 5, "the document has other heads: " + found);
     }
 
     private static void source(String whole) {
